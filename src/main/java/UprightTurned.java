@@ -58,7 +58,8 @@ public final class UprightTurned {
     private int faultPlace = NONE;
     private int missing;
     private int wrong;
-    private boolean fresh;
+    private boolean unitsFresh;
+    private boolean linesFresh;
     private boolean sidesFresh;
 
     public UprightTurned() {
@@ -104,7 +105,10 @@ public final class UprightTurned {
         needWithin(v, pick(LOWEST, what), pick(HIGHEST, what));
         int old = settings.get(what);
         settings.put(what, v);
-        fresh = false;
+        linesFresh = false;
+        if (what != LENGTH && what != MODE && what != ALIGN && what != GAP) {
+            unitsFresh = false;
+        }
         return old;
     }
 
@@ -115,7 +119,7 @@ public final class UprightTurned {
         needWithin(last, first, units.count);
         history.keep(text);
         text.drop(units.first.get(first), units.first.get(last) + units.size.get(last));
-        fresh = false;
+        unitsFresh = false;
         refresh();
         return units.count;
     }
@@ -124,7 +128,7 @@ public final class UprightTurned {
         if (!history.takeBack(text)) {
             return NONE;
         }
-        fresh = false;
+        unitsFresh = false;
         refresh();
         return units.count;
     }
@@ -355,7 +359,7 @@ public final class UprightTurned {
         trial.go(settings.get(LENGTH), settings.get(MODE));
         int moved = trial.movedFrom(layout.unitLine);
         settings.put(DOWN, 1 - settings.get(DOWN));
-        fresh = false;
+        unitsFresh = false;
         return moved;
     }
 
@@ -506,18 +510,22 @@ public final class UprightTurned {
         if (reason == 0) {
             history.keep(text);
             text.copyFrom(draft);
-            fresh = false;
+            unitsFresh = false;
         }
         return reason;
     }
 
     private void refresh() {
-        if (!fresh) {
+        if (!unitsFresh) {
             units.build();
             measure.forget();
+            unitsFresh = true;
+            linesFresh = false;
+        }
+        if (!linesFresh) {
             breaker.go(settings.get(LENGTH), settings.get(MODE));
             layout.build();
-            fresh = true;
+            linesFresh = true;
             sidesFresh = false;
         }
     }
@@ -837,9 +845,14 @@ public final class UprightTurned {
             }
         }
 
+        private Text place() {
+            return next >= 0 && next < kept.length ? kept[next] : null;
+        }
+
         void keep(Text text) {
-            if (next >= 0 && next < kept.length && kept[next] != null) {
-                kept[next].copyFrom(text);
+            Text place = place();
+            if (place != null) {
+                place.copyFrom(text);
             }
             next = next + 1 < UNDO_LIMIT ? next + 1 : 0;
             count = Math.min(count + 1, UNDO_LIMIT);
@@ -851,8 +864,9 @@ public final class UprightTurned {
             }
             count--;
             next = next > 0 ? next - 1 : UNDO_LIMIT - 1;
-            if (next < kept.length && kept[next] != null) {
-                text.copyFrom(kept[next]);
+            Text place = place();
+            if (place != null) {
+                text.copyFrom(place);
             }
             return true;
         }
@@ -1237,10 +1251,12 @@ public final class UprightTurned {
 
         int lengthOf(int first, int last) {
             int slot = slotOf(first, last);
-            if (known.get(slot) == 0) {
-                known.put(slot, longWith(first, last, settings.get(LEND)) + 1);
+            int together = known.get(slot) - 1;
+            if (together < 0) {
+                together = longWith(first, last, settings.get(LEND));
+                known.put(slot, together + 1);
             }
-            return known.get(slot) - 1;
+            return together;
         }
     }
 
@@ -1630,7 +1646,9 @@ public final class UprightTurned {
 
         int pageCount(int width) {
             int many = 0;
-            for (int line = 0; line < layout.lineCount(); line = pageEnd(line, width) + 1) {
+            int line = 0;
+            while (line < layout.lineCount()) {
+                line = Math.max(line, pageEnd(line, width)) + 1;
                 many++;
             }
             return many;

@@ -174,6 +174,7 @@ public final class BlockTest {
         KIT.wrong("block's what -1", () -> x.block(0, -1));
         KIT.missing("reading", () -> x.reading(1, 0, 0, 0));
         KIT.missing("reading, and all else", () -> x.reading(-1, 2, -1, 2));
+        KIT.wrong("reading's k below 0", () -> x.reading(0, 0, -1, 0));
         KIT.wrong("reading's side", () -> x.reading(0, 2, 0, 0));
         KIT.wrong("reading's side -1", () -> x.reading(0, -1, 0, 0));
         KIT.wrong("reading's what", () -> x.reading(0, 0, 0, 2));
