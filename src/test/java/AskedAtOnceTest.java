@@ -17,9 +17,9 @@ public final class AskedAtOnceTest {
         x -> x.sign(3, 0), x -> x.sign(3, 2), x -> x.sign(3, 3), x -> x.sign(1, 4), x -> x.sign(5, 5), x -> x.line(1, 0),
         x -> x.line(1, 1), x -> x.line(0, 2), x -> x.line(0, 4), x -> x.block(0, 0), x -> x.block(0, 4), x -> x.block(0, 6),
         x -> x.reading(0, 0, 1, 0), x -> x.reading(0, 0, 1, 1), x -> x.run(0, 1), x -> x.run(1, 0), x -> x.at(1, 10),
-        x -> x.ends(1) ? 1 : 0, x -> x.ends(4) ? 1 : 0, x -> x.longOf(0, 4), x -> x.lines(50, 0), x -> x.lines(30, 1),
+        x -> x.ends(1) ? 1 : 0, x -> x.ends(2) ? 1 : 0, x -> x.longOf(0, 4), x -> x.lines(50, 0), x -> x.lines(30, 1),
         x -> x.least(1), x -> x.least(2), x -> x.better(), x -> x.marks(0), x -> x.marks(1), x -> x.moves(), x -> x.lend(0),
-        x -> x.lend(1), x -> x.nearest(0), x -> x.nearest(1), x -> x.partner(1), x -> x.partner(3), x -> x.side(0, 0, 0),
+        x -> x.lend(1), x -> x.nearest(0), x -> x.nearest(1), x -> x.partner(1), x -> x.partner(4), x -> x.side(0, 0, 0),
         x -> x.side(1, 1, 1), x -> x.gutter(0), x -> x.clash(0), x -> x.thick(0, 1), x -> x.pages(40), x -> x.page(40, 0, 1),
         x -> x.page(40, 0, 2), x -> x.page(60, 1, 0), x -> x.narrow(1), x -> x.narrow(2),
     };
@@ -50,7 +50,7 @@ public final class AskedAtOnceTest {
     }
 
     private static UprightTurned given() {
-        UprightTurned x = Kit.with("A(b)123*B");
+        UprightTurned x = Kit.with("A(bC)123*B");
         Kit.more(x, "{C|xyz|u}D*_E{F|pqr}_. GHI12.");
         x.set(0, 48);
         return x;
