@@ -325,10 +325,10 @@ public final class UprightTurned {
     public int least(int lines) throws IllegalArgumentException {
         needWithin(lines, 1, SIGN_LIMIT);
         refresh();
-        int shortest = Math.max(pick(LOWEST, LENGTH), units.shortestFor(lines));
+        int mode = settings.get(MODE);
         int longest = pick(HIGHEST, LENGTH);
-        for (int length = shortest; length <= longest; length++) {
-            trial.go(length, settings.get(MODE));
+        for (int length = shortestFor(lines, mode); length <= longest; length++) {
+            trial.go(length, mode);
             if (trial.count <= lines && trial.tooLong(length) == 0) {
                 return length;
             }
@@ -490,6 +490,21 @@ public final class UprightTurned {
             wrong++;
             throw new IllegalArgumentException();
         }
+    }
+
+    /** A length below which no way to part the units does; lines that fit it fit a longer one, so halving finds it. */
+    private int shortestFor(int lines, int mode) {
+        int low = pick(LOWEST, LENGTH);
+        int high = pick(HIGHEST, LENGTH) + 1;
+        while (low < high) {
+            int middle = (low + high) / 2;
+            if (trial.fewest(middle, mode) <= lines) {
+                high = middle;
+            } else {
+                low = middle + 1;
+            }
+        }
+        return low;
     }
 
     private static int pick(int[] numbers, int which) {
@@ -1050,15 +1065,6 @@ public final class UprightTurned {
             return solidBefore.get(to + 1) - solidBefore.get(from);
         }
 
-        /** A length below which some line would be too long, or there would be more lines. */
-        int shortestFor(int lines) {
-            int least = lines > 0 ? (solid(0, count - 1) + lines - 1) / lines : 0;
-            for (int unit = 0; unit < count; unit++) {
-                least = Math.max(least, solid(unit, unit));
-            }
-            return least;
-        }
-
         static int markBit(int side) {
             return side == RIGHT ? 1 : 2;
         }
@@ -1268,6 +1274,7 @@ public final class UprightTurned {
         private final Measure measure;
         private final Row chosen = new Row(SIGN_LIMIT);
         private final LongRow costsFrom = new LongRow(SIGN_LIMIT + 1);
+        private final Row fewestFrom = new Row(SIGN_LIMIT + 1);
         final Row starts = new Row(SIGN_LIMIT + 1);
         int count;
 
@@ -1326,6 +1333,23 @@ public final class UprightTurned {
                 }
                 costsFrom.put(start, least);
             }
+        }
+
+        /** How many lines that all fit there are at least, of all ways to part the units; too many if there is no way. */
+        int fewest(int length, int mode) {
+            fewestFrom.put(units.count, 0);
+            for (int start = units.count - 1; start >= 0; start--) {
+                int least = SIGN_LIMIT + 1;
+                for (int last = start; last < units.count && units.solid(start, last) <= length; last++) {
+                    int many = fewestFrom.get(last + 1) + 1;
+                    boolean mayBe = many < least && (mode == 0 || closesLine(last));
+                    if (mayBe && measure.lengthOf(start, last) <= length) {
+                        least = many;
+                    }
+                }
+                fewestFrom.put(start, least);
+            }
+            return fewestFrom.get(0);
         }
 
         private static long costFor(int together, int length, boolean isLast) {

@@ -5,6 +5,8 @@ final class Kit {
     }
 
     private final String name;
+    private String sentence = "";
+    private int answersAhead;
     private int passed;
     private int failed;
 
@@ -44,12 +46,35 @@ final class Kit {
         return part.repeat(times);
     }
 
+    /** A text that stands: so many units. */
+    UprightTurned stands(String text, int units) {
+        UprightTurned x = new UprightTurned();
+        due("text " + text, units, text(x, text));
+        due("fault of " + text, UprightTurned.NONE, x.fault());
+        return x;
+    }
+
+    /** The next answers are about this sentence of the document; each sentence has one at least. */
+    void says(String next) {
+        endSentence();
+        sentence = next;
+        answersAhead = passed + failed;
+    }
+
+    private void endSentence() {
+        if (!sentence.isEmpty() && answersAhead == passed + failed) {
+            failed++;
+            System.out.println(name + ": no test of: " + sentence);
+        }
+    }
+
     void due(String what, long due, long got) {
         if (got == due) {
             passed++;
         } else {
             failed++;
-            System.out.println(name + ": " + what + " answered " + got + ", due is " + due);
+            String about = sentence.isEmpty() ? "" : " (" + sentence + ")";
+            System.out.println(name + ": " + what + " answered " + got + ", due is " + due + about);
         }
     }
 
@@ -78,6 +103,7 @@ final class Kit {
     }
 
     void close() {
+        endSentence();
         System.out.println(name + ": " + passed + " answers as due, " + failed + " not");
         if (failed > 0 || passed == 0) {
             System.exit(1);
