@@ -10,7 +10,7 @@ public final class UprightTurned {
     private static final int UNDO_LIMIT = 12;
     private static final int NO_PLACE = -1000;
     private static final int NO_DISTANCE = 999;
-    private static final int FAR = Integer.MAX_VALUE;
+    private static final int FAR = 0x7fffffff;
     private static final int SQUARE = 12;
     private static final int SPACE = 6;
     private static final int LETTER_LONG = 6;
@@ -1269,6 +1269,7 @@ public final class UprightTurned {
     /** Breaks the units into lines. */
     private static final class Breaker {
         private static final long TOO_LONG_COST = 1000000;
+        private static final long NO_COST_YET = 0x7fffffffffffffffL;
 
         private final Units units;
         private final Measure measure;
@@ -1316,7 +1317,7 @@ public final class UprightTurned {
         private void chooseBest(int length) {
             costsFrom.put(units.count, 0);
             for (int start = units.count - 1; start >= 0; start--) {
-                long least = Long.MAX_VALUE;
+                long least = NO_COST_YET;
                 for (int last = start; last < units.count; last++) {
                     // Longer lines only cost more once their solid widths are too long.
                     if (TOO_LONG_COST * (units.solid(start, last) - length) >= least) {
